@@ -1,0 +1,69 @@
+/** Counts answers that are not as due, and makes frontiers from texts. */
+final class Check {
+    static final int BYTES = 0;
+    static final int SHORTS = 1;
+    static final int INTS = 2;
+    static final int ILLEGAL_ARGUMENT = 1;
+    static final int ILLEGAL_STATE = 2;
+
+    private final String test;
+    private int wrong;
+    private int looked;
+
+    Check(String test) {
+        this.test = test;
+    }
+
+    void due(String call, long got, long want) {
+        looked++;
+        if (got != want) {
+            wrong++;
+            System.out.println(test + ": " + call + " answered " + got + ", due is " + want);
+        }
+    }
+
+    /** What element throws: 0 nothing. */
+    static int thrownByElement(PapersAreOnCats x, int d, int i) {
+        try {
+            x.element(d, i);
+            return 0;
+        } catch (IllegalArgumentException e) {
+            return ILLEGAL_ARGUMENT;
+        } catch (IllegalStateException e) {
+            return ILLEGAL_STATE;
+        }
+    }
+
+    static PapersAreOnCats land(String text) {
+        PapersAreOnCats x = new PapersAreOnCats();
+        int statements = tell(x, text);
+        if (statements < 0) {
+            throw new IllegalStateException("the test's own text has a fault: " + text);
+        }
+        return x;
+    }
+
+    /** The text goes by shelf 0. */
+    static int tell(PapersAreOnCats x, String text) {
+        int[] signs = new int[text.length()];
+        for (int i = 0; i < signs.length; i++) {
+            signs[i] = text.charAt(i);
+        }
+        fill(x, 0, BYTES, signs);
+        return x.frontier(0);
+    }
+
+    static void fill(PapersAreOnCats x, int d, int sort, int... values) {
+        x.row(d, sort, values.length);
+        for (int i = 0; i < values.length; i++) {
+            x.put(d, i, values[i]);
+        }
+    }
+
+    void end() {
+        if (wrong != 0) {
+            System.out.println(test + ": " + wrong + " of " + looked + " answers are not as due");
+            System.exit(1);
+        }
+    }
+}
