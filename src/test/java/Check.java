@@ -36,8 +36,7 @@ final class Check {
 
     static PapersAreOnCats land(String text) {
         PapersAreOnCats x = new PapersAreOnCats();
-        int statements = tell(x, text);
-        if (statements < 0) {
+        if (!text.isEmpty() && tell(x, text) < 0) {
             throw new IllegalStateException("the test's own text has a fault: " + text);
         }
         return x;
