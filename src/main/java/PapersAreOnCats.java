@@ -1091,9 +1091,8 @@ public final class PapersAreOnCats {
         int richestPlace(int[] stock, int from) {
             int best = from;
             for (int place = 0; place < PLACES; place++) {
-                boolean asMuch = stock[place] == stock[best];
-                boolean nearer = Math.abs(place - from) < Math.abs(best - from);
-                if (stock[place] > stock[best] || asMuch && nearer) {
+                if (stock[place] > stock[best]
+                        || stock[place] == stock[best] && Math.abs(place - from) < Math.abs(best - from)) {
                     best = place;
                 }
             }

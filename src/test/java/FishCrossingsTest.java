@@ -122,6 +122,13 @@ public final class FishCrossingsTest {
         due("more than without", Check.land("c0007;c0007;m0;m0;w00;w11;h48;w11;f089;").shave(1), 0);
         due("without a name", Check.land("c0007;m0;h48;f089;").shave(1), -4);
         due("without cats", new PapersAreOnCats().shave(1), -4);
+        x = Check.land("c7007;c7808;m0;w00;h48;f102;f082;f144;f005;");
+        due("it crosses in 47 hours: shave(46)", x.shave(46), -4);
+        due("it crosses in 47 hours: shave(47)", x.shave(47), 0);
+        due("it crosses in 47 hours: write", x.write(0, 1), 47);
+        x = Check.land("c0214;c7603;c7606;m1;w00;h48;f039;f058;f002;f149;");
+        due("it crosses in 48 hours", x.crosses(0), 48);
+        due("it crosses in 48 hours: shave(99)", x.shave(99), -4);
     }
 
     private static void bribe() {
@@ -138,6 +145,8 @@ public final class FishCrossingsTest {
         due("bribe(0, 2, 0)", x.bribe(0, 2, 0), -4);
         due("no fish are put", x.count(5), 3);
         due("more than 9 can not be", Check.land("c0005;f099;").bribe(0, 0, 1), -4);
+        due("one is enough", Check.land("c0005;f085;f025;").bribe(0, 8, 1), 1);
+        due("nine are needed", Check.land("c0005;f098;").bribe(0, 0, 1), 9);
         due("fish are there already", Check.land("c0005;f099;f007;").bribe(0, 0, 1), -4);
         due("fish are there already: more", Check.land("c0005;f098;f007;").bribe(0, 0, 1), 2);
         due("bribe(1, 0, 0)", x.bribe(1, 0, 0), -1);
@@ -164,6 +173,8 @@ public final class FishCrossingsTest {
         dueBusiest("c3004;c3004;c3002;", 3, 4, 6);
         dueBusiest("c3004;c3002;", 3, 2, 3);
         dueBusiest("", 9, 0, 0);
+        dueBusiest("c3001;", 3, 1, 3);
+        dueBusiest("c3015;", 3, 15, 3);
         PapersAreOnCats x = Check.land("c0005;");
         due("busiest again: nothing is left of the call ahead", x.busiest(3, 1), 3);
         due("busiest once more", x.busiest(2, 1), 2);

@@ -77,6 +77,7 @@ public final class ImageShelvesTest {
         for (int what = 0; what < counts.length; what++) {
             due("count(" + what + ")", x.count(what), counts[what]);
         }
+        due("count(5) at both ends", Check.land("f009;f158;").count(5), 17);
         due("count(7)", x.count(7), -1);
         due("count(-1)", x.count(-1), -1);
         x.writes(1, 9);
@@ -206,6 +207,9 @@ public final class ImageShelvesTest {
         due("nothing to a kind: -11 ahead of -12", x.copy(5, 0, 6, 0, 0), -11);
         due("from a kind", x.copy(6, 0, 0, 0, -1), -12);
         due("to a kind", x.copy(0, 0, 6, 0, -1), -12);
+        x.row(7, 0, 2);
+        due("bytes from a kind", x.copy(6, 0, 7, 0, 1), -12);
+        due("bytes to a kind", x.copy(7, 0, 6, 0, 1), -12);
         due("a kind to a kind", x.copy(6, 0, 6, 0, 0), -12);
         x.row(2, 2, 4);
         due("sorts differ", x.copy(0, 0, 2, 0, -1), -12);

@@ -110,11 +110,18 @@ public final class LogsNightsTest {
         x = Check.land("c0900;m0;w00;f159;h47;");
         due("hair is as it is now", x.nights(10, 1, 0), 0);
 
+        // an old one goes at 9, 12, 15, and at 18 only if the ten hours begin at 9
+        due("ten hours from 8 on", Check.land("c7000;f159;").nights(10, 1, 1), 7);
+        due("ten hours from 9 on", Check.land("c7000;f159;h01;").nights(10, 1, 1), 8);
+
         // below 0 the sign's bit goes: -1 becomes -1103502900, 1043980748 without it, 15929 over 65536, cut
         due("a seed below 0", Check.land("c3000;").nights(1, -1, 1), 15929 % 16 >= 8 ? 1 : 0);
         x = Check.land("c3000;");
         due("20 nights", x.nights(20, 0, 1), sideOneOf(20, 0));
         due("20 nights of another seed", x.nights(20, Integer.MIN_VALUE, 1), sideOneOf(20, Integer.MIN_VALUE));
+        for (int seed = 0; seed < 100; seed++) {
+            due("seed " + seed, x.nights(20, seed * 7654321, 1), sideOneOf(20, seed * 7654321));
+        }
         due("nights(0, 1, 0)", x.nights(0, 1, 0), -1);
         due("nights(21, 1, 0)", x.nights(21, 1, 0), -1);
         due("nights(1, 1, 2)", x.nights(1, 1, 2), -1);

@@ -113,6 +113,7 @@ public final class WhatItIsTest {
         due("the second's fish", Check.land("c0005;").two(3), 1);
         due("the first's fish", Check.land("c0010;").two(3), 10);
         due("both's fish", Check.land("c0005;c0010;").two(3), 11);
+        due("one hour", Check.land("c0007;").two(1), 10);
         due("24 hours", Check.land("c3005;").two(24), 0);
         // 9 at most: the second's fish are no more than the nine where the cat is
         due("9 at most", Check.land("c0007;f079;f088;").two(3), 0);
