@@ -92,7 +92,8 @@ public final class PapersAreOnCats {
         mind.becomes(now);
         int statements = 0;
         int letter = 0;
-        while (letter < text.size) {
+        // a statement has three bytes at least, so there are never more of them than bytes
+        while (letter < text.size && statements < LONGEST_ROW) {
             if (!Text.isDone(text, letter, mind)) {
                 return FAULT_OF_SENSE - letter;
             }
@@ -979,13 +980,21 @@ public final class PapersAreOnCats {
             }
         }
 
+        /** Does much by itself, because calls may go eight deep and some come here four deep already. */
         void anHour() {
             crossed = 0;
             for (int cat = 0; cat < cats; cat++) {
+                Cat its = kinds[kind[cat]];
                 int from = at[cat];
-                go(cat);
+                int pace = its.pace(figure[cat], hour);
+                int way = its.goal(this, cat) - from;
+                int to = from + Math.max(-pace, Math.min(pace, way));
+                at[cat] = to;
+                if (to != from && fish[to] > 0) {
+                    fish[to]--;
+                }
                 grow(cat);
-                if (sideOf(from) != sideOf(at[cat])) {
+                if (sideOf(from) != sideOf(to)) {
                     crossed |= 1 << cat;
                     letPass(cat, sideOf(from));
                 }
@@ -999,17 +1008,6 @@ public final class PapersAreOnCats {
                 grow(cat);
             }
             turnClock();
-        }
-
-        private void go(int cat) {
-            int from = at[cat];
-            int pace = paceOf(cat, hour);
-            int way = goalOf(cat) - from;
-            int to = from + Math.max(-pace, Math.min(pace, way));
-            at[cat] = to;
-            if (to != from && fish[to] > 0) {
-                fish[to]--;
-            }
         }
 
         void grow(int cat) {
@@ -1368,8 +1366,14 @@ public final class PapersAreOnCats {
                 case 'f': return stockIsLaid(text, letter, land.fish);
                 case 'x': return stockIsLaid(text, letter, land.mice);
                 case 'w': return nameIsGiven(text, letter, land);
-                default: return hoursGoBy(text, letter, land);
+                default: break;
             }
+            int hours = number(text, letter + 1, 2);
+            if (!isWithin(hours, 1, MOST_HOURS_AT_ONCE) || !land.hasDaysFor(hours)) {
+                return false;
+            }
+            land.goOn(hours);
+            return true;
         }
 
         private static boolean catIsAdded(Shelf text, int letter, Frontier land) {
@@ -1400,15 +1404,6 @@ public final class PapersAreOnCats {
                 return false;
             }
             land.giveName(cat, man);
-            return true;
-        }
-
-        private static boolean hoursGoBy(Shelf text, int letter, Frontier land) {
-            int n = number(text, letter + 1, 2);
-            if (!isWithin(n, 1, MOST_HOURS_AT_ONCE) || !land.hasDaysFor(n)) {
-                return false;
-            }
-            land.goOn(n);
             return true;
         }
 

@@ -59,6 +59,39 @@ final class Check {
         }
     }
 
+    /** All that can be looked at: the frontier and what the shelves hold. Takes less than 300 calls for short rows. */
+    static String told(PapersAreOnCats x) {
+        return frontierTold(x) + shelvesTold(x);
+    }
+
+    static String frontierTold(PapersAreOnCats x) {
+        StringBuilder all = new StringBuilder();
+        for (int what = 0; what < 7; what++) {
+            all.append(x.count(what)).append(' ');
+        }
+        for (int i = 0; i < 6; i++) {
+            for (int what = 0; what < 8; what++) {
+                all.append(x.cat(i, what)).append(' ');
+            }
+            all.append(x.man(i, 0)).append(' ').append(x.man(i, 1)).append(' ');
+        }
+        for (int place = 0; place < 16; place++) {
+            all.append(x.place(place, 0)).append(' ').append(x.place(place, 1)).append(' ');
+        }
+        return all.toString();
+    }
+
+    private static String shelvesTold(PapersAreOnCats x) {
+        StringBuilder all = new StringBuilder();
+        for (int d = 0; d < 8; d++) {
+            all.append("| ").append(x.cost(d)).append(' ').append(x.toss(d)).append(' ');
+            for (int i = 0; i < 101 && thrownByElement(x, d, i) == 0; i++) {
+                all.append(x.element(d, i)).append(' ');
+            }
+        }
+        return all.toString();
+    }
+
     void end() {
         if (wrong != 0) {
             System.out.println(test + ": " + wrong + " of " + looked + " answers are not as due");

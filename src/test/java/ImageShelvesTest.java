@@ -22,23 +22,23 @@ public final class ImageShelvesTest {
         PapersAreOnCats x = Check.land("c2407;c0003;m0;m1;w00;f089;x045;h20;");
         due("restore() of none", x.restore(), -3);
         due("image()", x.image(), 1);
-        String before = told(x);
+        String before = Check.frontierTold(x);
         Check.tell(x, "c3000;m1;w11;f001;x099;h60;");
         x.carries(0, 15);
         due("restore()", x.restore(), 1);
-        due("all is as it was", told(x).equals(before) ? 1 : 0, 1);
+        due("all is as it was", Check.frontierTold(x).equals(before) ? 1 : 0, 1);
         due("shelves stay", x.element(0, 1), '3');
         x.keep(3, 1, 6, 6);
         x.hours(30);
         due("restore() again", x.restore(), 1);
-        due("all is as it was, again", told(x).equals(before) ? 1 : 0, 1);
+        due("all is as it was, again", Check.frontierTold(x).equals(before) ? 1 : 0, 1);
         due("shelves stay, again", x.cost(3), 8);
         x.hours(30);
-        String later = told(x);
+        String later = Check.frontierTold(x);
         due("image() anew", x.image(), 2);
         x.hours(1);
         due("restore() anew", x.restore(), 2);
-        due("all is as it was later", told(x).equals(later) ? 1 : 0, 1);
+        due("all is as it was later", Check.frontierTold(x).equals(later) ? 1 : 0, 1);
         x = new PapersAreOnCats();
         due("image() of nothing", x.image(), 0);
         Check.tell(x, "c0000;m0;f019;h05;");
@@ -52,23 +52,6 @@ public final class ImageShelvesTest {
         x.restore();
         due("a man who comes has not passed", x.waits(1), 0);
         due("not passed", x.man(0, 1), 0);
-    }
-
-    private static String told(PapersAreOnCats x) {
-        StringBuilder all = new StringBuilder();
-        for (int what = 0; what < 7; what++) {
-            all.append(x.count(what)).append(' ');
-        }
-        for (int i = 0; i < 6; i++) {
-            for (int what = 0; what < 8; what++) {
-                all.append(x.cat(i, what)).append(' ');
-            }
-            all.append(x.man(i, 0)).append(' ').append(x.man(i, 1)).append(' ');
-        }
-        for (int place = 0; place < 16; place++) {
-            all.append(x.place(place, 0)).append(' ').append(x.place(place, 1)).append(' ');
-        }
-        return all.toString();
     }
 
     private static void count() {

@@ -52,6 +52,9 @@ public final class ModelTest {
         for (String land : EdgesTest.LANDS) {
             new ModelTest(runs).lookAround(land);
         }
+        for (String land : AheadEdgesTest.LANDS) {
+            new ModelTest(runs).lookAround(land);
+        }
         CHECK.end();
     }
 
