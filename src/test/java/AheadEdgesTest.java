@@ -33,6 +33,7 @@ public final class AheadEdgesTest {
         bribe();
         busiest();
         nearest();
+        fullHouse();
         CHECK.end();
     }
 
@@ -211,6 +212,13 @@ public final class AheadEdgesTest {
         due("when", x.write(0, 1), 1);
         x = Check.land("c0006;c0007;m0;f089;");
         due("the soonest", x.write(0, 0), 1);
+        due("the soonest, when", x.write(0, 1), 1);
+        x = Check.land("c0007;c0006;c0005;m0;f089;");
+        due("the soonest ahead of later ones", x.write(0, 0), 0);
+        due("the soonest ahead of later ones, when", x.write(0, 1), 1);
+        x = Check.land("c3000;c0005;c0007;c0006;m0;f089;");
+        due("the soonest among later ones", x.write(0, 0), 2);
+        due("the soonest among later ones, when", x.write(0, 1), 1);
         x = Check.land("c0007;h60;m0;f089;");
         due("it is shaved by that", x.write(0, 0), 0);
         due("it is not shaved really", x.cat(0, 3), 60);
@@ -248,6 +256,10 @@ public final class AheadEdgesTest {
                 due("where, " + v + " for " + place, x.putFish(0, place, v, 0), place <= 7 ? 0 : place);
             }
         }
+        // the fish at 6 is nearer than that at 9, and is taken first, but for two at 9
+        x = Check.land("c0007;f061;f091;");
+        due("the soonest among later ones", x.putFish(0, 8, 1, 0), 9);
+        due("the soonest among later ones, when", x.putFish(0, 8, 1, 1), 1);
         due("never, white", Check.land("c3007;").putFish(0, 8, 9, 0), -4);
         due("never, white, when", Check.land("c3007;").putFish(0, 8, 9, 1), -4);
         due("there, white", Check.land("c3007;").putFish(0, 7, 9, 0), 0);
@@ -322,6 +334,7 @@ public final class AheadEdgesTest {
     private static void shave() {
         String hairy = "c0007;c0007;m0;m0;w00;w11;h48;";
         due("of several the least", Check.land(hairy + "f089;").shave(1), 0);
+        due("the only one among others", Check.land("c3000;c0007;c3000;m0;w10;h48;f089;").shave(1), 1);
         due("of the next ones", Check.land(hairy + "w09;f089;").shave(1), 1);
         due("not yet", Check.land(hairy + "f109;").shave(0), -4);
         due("as many as without", Check.land("c0007;m0;w00;f089;").shave(99), -4);
@@ -380,8 +393,63 @@ public final class AheadEdgesTest {
         }
         due("of several the least", Check.land("c3000;c3015;").nearest(0), 0);
         due("as near from both sides", Check.land("c3008;c3007;").nearest(0), 0);
+        due("the nearest ahead of farther ones", Check.land("c3007;c3000;").nearest(0), 0);
+        due("the nearest ahead of farther ones, how far", Check.land("c3007;c3000;").nearest(1), 0);
+        due("the nearest among farther ones", Check.land("c3004;c3009;c3000;").nearest(0), 1);
+        due("the nearest among farther ones, how far", Check.land("c3004;c3009;c3000;").nearest(1), 1);
         due("the last of six", Check.land("c3000;".repeat(5) + "c3014;").nearest(0), 5);
         due("none", new PapersAreOnCats().nearest(0), -4);
         due("none: how far", new PapersAreOnCats().nearest(1), -4);
+    }
+
+    /** Six cats and six men, the sixth of each being the only one of which something is to be told. */
+    private static void fullHouse() {
+        String text = "c3000;".repeat(5) + "c0007;" + "m1;".repeat(5) + "m0;";
+        PapersAreOnCats x = Check.land(text + "w55;h48;f089;");
+        due("cats", x.count(0), 6);
+        due("men", x.count(1), 6);
+        due("shave", x.shave(1), 5);
+        due("write", x.write(5, 0), 5);
+        due("write, when", x.write(5, 1), 1);
+        due("write: no cat of the six", x.write(0, 0), -4);
+        due("all", x.all(), 1);
+        due("passes", x.passes(5), -4);
+        due("first", x.first(), -4);
+        x.writes(5, 5);
+        due("passes, shaved", x.passes(5), 1);
+        due("first, shaved", x.first(), 5);
+        due("then", x.then(1, 0), 32);
+        due("shave, shaved", x.shave(1), -4);
+        due("crosses", x.crosses(5), 1);
+        due("crossings", x.crossings(5, 99), 1);
+        due("good", x.good(5), 48);
+        due("putFish", x.putFish(5, 8, 1, 0), 0);
+        due("putFish, when", x.putFish(5, 8, 1, 1), 1);
+        due("bribe", x.bribe(5, 6, 1), 9);
+        due("together", x.together(99, 0), 32);
+        due("deserted", x.deserted(1), 65535 - 1 - 128 - 256);
+        due("meet", x.meet(5, 0), -4);
+        due("meet, those before", x.meet(4, 3), 0);
+        due("busiest", x.busiest(2, 0), 0);
+        due("busiest, how often", x.busiest(2, 1), 10);
+        due("nearest", x.nearest(0), 5);
+        due("dogs", x.dogs(5, 1, 1, 3, 0), 2);
+        due("dogs, below", x.dogs(5, 1, 1, 3, 1), 3);
+        due("dogs for seven hours", x.dogs(5, 0, 7, 2, 1), 128);
+        due("two", x.two(1), 0);
+        due("mean", x.mean(0), 7);
+        due("mean, below", x.mean(1), 6);
+        Check.fill(x, 1, Check.BYTES, 0, 1);
+        due("judge", x.judge(1), -4);
+        Check.fill(x, 1, Check.BYTES, 7, 8);
+        due("whatIs, starts", x.whatIs(1, 5, 2), 128);
+        due("forged", x.forged(1, 5), -4);
+        // seed 1 draws 6, 14, 1, 11, 11, 11: three white ones are on side 1, and the sixth goes to 8
+        due("nights", x.nights(1, 1, 1), 4);
+        due("hours", x.hours(1), 1);
+        due("readable ones", x.count(6), 32);
+        x.keep(0, 1, 0, 0);
+        due("no room for cats", x.comes(0, 0), -2);
+        due("no room for men", x.waits(0), -2);
     }
 }
