@@ -14,6 +14,11 @@ final class Check {
         this.test = test;
     }
 
+    /** Where README.md and src are: .ci/run tells it; without that, where the test is run from. */
+    static String project() {
+        return System.getProperty("project", ".");
+    }
+
     void due(String call, long got, long want) {
         looked++;
         if (got != want) {
